@@ -52,7 +52,8 @@ public final class TearsPost {
     private static final int VALUE_BEFORE = 6;
     private static final int VALUES = 7;
 
-    /** An EXPR's code: a number from 0 on is itself, -1 to -7 are VALUES, these are the rest. */
+    /** An EXPR's code: a number from 0 on is itself, -1 and below are VALUES, then come these. */
+    private static final int CODE_VALUE = -1;
     private static final int CODE_NOT = -8;
     private static final int CODE_OR = -9;
     private static final int CODE_AND = -10;
@@ -63,6 +64,23 @@ public final class TearsPost {
     private static final int CODE_TIMES = -15;
     private static final int CODE_BY = -16;
     private static final int CODE_END = -17;
+
+    /** Kinds of TOKENS: what joins, VALUES and 'not' are their codes, these are the rest, words last. */
+    private static final int TOKEN_END = 0;
+    private static final int TOKEN_NUMBER = 1;
+    private static final int TOKEN_NONE = 2;
+    private static final int TOKEN_SEMICOLON = 3;
+    private static final int TOKEN_OPEN = 4;
+    private static final int TOKEN_CLOSE = 5;
+    private static final int TOKEN_HOUSES = 6;
+    private static final int TOKEN_WALK = 7;
+    private static final int TOKEN_RULE = 8;
+    private static final int TOKEN_ASK = 9;
+    private static final int TOKEN_CHANCE = 10;
+    private static final int TOKEN_WORD = 11;
+
+    /** What a NUMBER of five digits or more is read as: above all that a text may tell. */
+    private static final int TOO_LONG = 10000;
 
     private final Reader reader = new Reader();
     private final Records records = new Records();
@@ -82,24 +100,24 @@ public final class TearsPost {
     }
 
     public int feed(int a, int b, int c, int d, int e) {
-        if (reader.taped + FEED_BYTES > MOST_BYTES) {
+        if (reader.tokens.taped + FEED_BYTES > MOST_BYTES) {
             return NONE;
         }
-        reader.tapeNumber(a);
-        reader.tapeNumber(b);
-        reader.tapeNumber(c);
-        reader.tapeNumber(d);
-        reader.tapeNumber(e);
-        return reader.taped;
+        reader.tokens.tapeNumber(a);
+        reader.tokens.tapeNumber(b);
+        reader.tokens.tapeNumber(c);
+        reader.tokens.tapeNumber(d);
+        reader.tokens.tapeNumber(e);
+        return reader.tokens.taped;
     }
 
     public int city(int n) throws IllegalArgumentException {
-        if (n < 0 || n > reader.taped) {
+        if (n < 0 || n > reader.tokens.taped) {
             throw new IllegalArgumentException("the tape has not so many bytes");
         }
         int fault = reader.readCity(n);
         if (fault != 0) {
-            faultPlace = reader.start;
+            faultPlace = reader.place();
             records.countRefused(STATUS_TEXTS);
             return fault;
         }
@@ -134,7 +152,7 @@ public final class TearsPost {
             case 6:
                 return records.registered;
             case 7:
-                return reader.taped;
+                return reader.tokens.taped;
             case 8:
                 return records.nowHour();
             default:
@@ -541,7 +559,7 @@ public final class TearsPost {
                     put(stack, height, number);
                     height++;
                 } else if (number > CODE_NOT) {
-                    put(stack, height, at(values, -1 - number));
+                    put(stack, height, at(values, CODE_VALUE - number));
                     height++;
                 } else if (number == CODE_NOT) {
                     put(stack, height - 1, at(stack, height - 1) == 0 ? 1 : 0);
@@ -575,19 +593,184 @@ public final class TearsPost {
         }
     }
 
-    /** The tape, and how a text on it is read, TOKEN by TOKEN, into a draft of a CITY. */
+    /** The tape, and the TOKENS into which a text on it falls. */
+    private static final class Tokens {
+        private static final int MOST_DIGITS = 4;
+        private static final int MOST_TOKENS = MOST_BYTES + 1;
+
+        private final int[] tape = new int[MOST_BYTES];
+        private int taped = 0;
+        private int many = 0;
+        private final int[] kinds = new int[MOST_TOKENS];
+        private final int[] starts = new int[MOST_TOKENS];
+        private final int[] numbers = new int[MOST_TOKENS];
+
+        private void tapeNumber(int four) {
+            for (int shift = 24; shift >= 0; shift -= 8) {
+                put(tape, taped, four >> shift & 255);
+                taped++;
+            }
+        }
+
+        /** The tape's first bytes fall into TOKENS; behind them the tape is empty. */
+        private void split(int bytes) {
+            many = 0;
+            taped = 0;
+            int end = 0;
+            for (int start = 0; start < bytes; start = end) {
+                end = endOf(start, bytes);
+                if (!isBlank(at(tape, start))) {
+                    add(kindOf(start, end), start, numberOf(start, end));
+                }
+            }
+            add(TOKEN_END, bytes, 0);
+        }
+
+        private void add(int kind, int start, int number) {
+            put(kinds, many, kind);
+            put(starts, many, start);
+            put(numbers, many, number);
+            many++;
+        }
+
+        /** Letters and digits go on as long as their like do, all else stands alone. */
+        private int endOf(int start, int bytes) {
+            boolean letters = isLetter(at(tape, start));
+            boolean digits = isDigit(at(tape, start));
+            int end = start + 1;
+            while (end < bytes && (letters && isLetter(at(tape, end)) || digits && isDigit(at(tape, end)))) {
+                end++;
+            }
+            return end;
+        }
+
+        private int numberOf(int start, int end) {
+            if (end - start > MOST_DIGITS) {
+                return TOO_LONG;
+            }
+            int number = 0;
+            for (int i = start; i < end; i++) {
+                number = 10 * number + at(tape, i) - '0';
+            }
+            return number;
+        }
+
+        private int kindOf(int start, int end) {
+            int first = at(tape, start);
+            if (isDigit(first)) {
+                return TOKEN_NUMBER;
+            }
+            if (!isLetter(first)) {
+                return kindOfSign(first);
+            }
+            int kind = kindOfValue(start, end);
+            return kind == TOKEN_WORD ? kindOfWord(start, end) : kind;
+        }
+
+        private static int kindOfSign(int sign) {
+            switch (sign) {
+                case ';':
+                    return TOKEN_SEMICOLON;
+                case '(':
+                    return TOKEN_OPEN;
+                case ')':
+                    return TOKEN_CLOSE;
+                case '+':
+                    return CODE_PLUS;
+                case '-':
+                    return CODE_MINUS;
+                case '*':
+                    return CODE_TIMES;
+                case '/':
+                    return CODE_BY;
+                case '<':
+                    return CODE_LESS;
+                case '=':
+                    return CODE_EQUAL;
+                default:
+                    return TOKEN_NONE;
+            }
+        }
+
+        private int kindOfValue(int start, int end) {
+            if (isWord(start, end, "house")) {
+                return CODE_VALUE - VALUE_HOUSE;
+            }
+            if (isWord(start, end, "person")) {
+                return CODE_VALUE - VALUE_PERSON;
+            }
+            if (isWord(start, end, "grief")) {
+                return CODE_VALUE - VALUE_GRIEF;
+            }
+            if (isWord(start, end, "hired")) {
+                return CODE_VALUE - VALUE_HIRED;
+            }
+            if (isWord(start, end, "day")) {
+                return CODE_VALUE - VALUE_DAY;
+            }
+            if (isWord(start, end, "hour")) {
+                return CODE_VALUE - VALUE_HOUR;
+            }
+            return isWord(start, end, "before") ? CODE_VALUE - VALUE_BEFORE : TOKEN_WORD;
+        }
+
+        private int kindOfWord(int start, int end) {
+            if (isWord(start, end, "not")) {
+                return CODE_NOT;
+            }
+            if (isWord(start, end, "or")) {
+                return CODE_OR;
+            }
+            if (isWord(start, end, "and")) {
+                return CODE_AND;
+            }
+            if (isWord(start, end, "houses")) {
+                return TOKEN_HOUSES;
+            }
+            if (isWord(start, end, "walk")) {
+                return TOKEN_WALK;
+            }
+            if (isWord(start, end, "rule")) {
+                return TOKEN_RULE;
+            }
+            if (isWord(start, end, "ask")) {
+                return TOKEN_ASK;
+            }
+            return isWord(start, end, "chance") ? TOKEN_CHANCE : TOKEN_WORD;
+        }
+
+        private boolean isWord(int start, int end, String word) {
+            if (end - start != word.length()) {
+                return false;
+            }
+            for (int i = 0; i < word.length(); i++) {
+                if (at(tape, start + i) != word.charAt(i)) {
+                    return false;
+                }
+            }
+            return true;
+        }
+
+        private static boolean isBlank(int sign) {
+            return sign == ' ' || sign == '\n';
+        }
+
+        private static boolean isLetter(int sign) {
+            return sign >= 'a' && sign <= 'z';
+        }
+
+        private static boolean isDigit(int sign) {
+            return sign >= '0' && sign <= '9';
+        }
+    }
+
+    /** How the TOKENS of a text are read, from the first on, into a draft of a CITY. */
     private static final class Reader {
         private static final int FAULT_PLACE = 1;
         private static final int FAULT_MUCH = 2;
         private static final int FAULT_UNKNOWN = 3;
         private static final int FAULT_SAME = 4;
         private static final int FAULT_FIRST = 5;
-
-        private static final int KIND_END = 0;
-        private static final int KIND_WORD = 1;
-        private static final int KIND_NUMBER = 2;
-        private static final int KIND_SIGN = 3;
-        private static final int KIND_NO_TOKEN = 4;
 
         /** How an EXPR binds, the loosest first. */
         private static final int LEVEL_OR = 0;
@@ -597,64 +780,63 @@ public final class TearsPost {
         private static final int LEVEL_PRODUCT = 4;
         private static final int LEVEL_PART = 5;
 
-        private static final int MOST_DIGITS = 4;
         private static final int MOST_NUMBER = 9999;
         private static final int MOST_NOTS = 6;
         private static final int MOST_EXPRS = 6;
         private static final int UNTOLD_CHANCE = 100;
         private static final int MOST_WALK = 99;
 
-        private final int[] tape = new int[MOST_BYTES];
-        private int taped = 0;
+        private final Tokens tokens = new Tokens();
         private City draft = new City();
-        private int size = 0;
-        private int start = 0;
-        private int end = 0;
-        private int kind = KIND_END;
+        private int token = 0;
+        private int kind = TOKEN_END;
         private int number = 0;
         private int taken = 0;
         private int fault = 0;
 
-        private void tapeNumber(int four) {
-            for (int shift = 24; shift >= 0; shift -= 8) {
-                put(tape, taped, four >> shift & 255);
-                taped++;
-            }
-        }
-
-        /** The FAULT, or 0; the FAULT's place is then where the latest TOKEN starts. */
+        /** The FAULT, or 0; the latest TOKEN is then the one at which it stands. */
         private int readCity(int bytes) {
-            size = bytes;
-            end = 0;
-            fault = 0;
-            taped = 0;
+            tokens.split(bytes);
             draft.empty();
-            advance();
+            fault = 0;
+            goTo(0);
             boolean fine = true;
-            for (int clause = 0; clause < MOST_BYTES && fine && kind != KIND_END; clause++) {
-                fine = readClause(clause == 0) && takeSign(';');
+            for (int clause = 0; clause < MOST_BYTES && fine && kind != TOKEN_END; clause++) {
+                fine = readClause(clause == 0) && take(TOKEN_SEMICOLON);
+                draft.addCode(CODE_END);
             }
             return fault;
         }
 
+        private int place() {
+            return at(tokens.starts, token);
+        }
+
+        private void goTo(int next) {
+            token = next;
+            kind = at(tokens.kinds, next);
+            number = at(tokens.numbers, next);
+        }
+
         private boolean readClause(boolean first) {
-            if (isWord("houses")) {
-                return first ? readHouses() : refuse(FAULT_FIRST);
+            switch (kind) {
+                case TOKEN_HOUSES:
+                    return first ? readHouses() : refuse(FAULT_FIRST);
+                case CODE_VALUE - VALUE_PERSON:
+                    return readPerson();
+                case TOKEN_WALK:
+                    return readWalk();
+                case TOKEN_RULE:
+                    return beginRule() && readLevel(LEVEL_OR, 0);
+                case TOKEN_ASK:
+                    return beginAsk() && readLevel(LEVEL_OR, 0);
+                default:
+                    return refuse(FAULT_PLACE);
             }
-            if (isWord("person")) {
-                return readPerson();
-            }
-            if (isWord("walk")) {
-                return readWalk();
-            }
-            if (isWord("rule")) {
-                return readRule();
-            }
-            return isWord("ask") ? readAsk() : refuse(FAULT_PLACE);
         }
 
         private boolean readHouses() {
-            advance();
+            goTo(token + 1);
             if (!takeNumber(1, MOST_HOUSES)) {
                 return false;
             }
@@ -667,22 +849,22 @@ public final class TearsPost {
             if (person >= MOST_PEOPLE) {
                 return refuse(FAULT_MUCH);
             }
-            advance();
+            goTo(token + 1);
             if (!takeHouse(NONE)) {
                 return false;
             }
             put(draft.homes, person, taken);
             put(draft.chances, person, UNTOLD_CHANCE);
-            if (isWord("chance")) {
-                advance();
+            if (kind == TOKEN_CHANCE) {
+                goTo(token + 1);
                 if (!takeNumber(0, SURE_CHANCE)) {
                     return false;
                 }
                 put(draft.chances, person, taken);
             }
-            boolean hired = isWord("hired");
+            boolean hired = kind == CODE_VALUE - VALUE_HIRED;
             if (hired) {
-                advance();
+                goTo(token + 1);
             }
             put(draft.hired, person, hired ? 1 : 0);
             draft.people++;
@@ -690,7 +872,7 @@ public final class TearsPost {
         }
 
         private boolean readWalk() {
-            advance();
+            goTo(token + 1);
             if (!takeHouse(NONE)) {
                 return false;
             }
@@ -706,43 +888,27 @@ public final class TearsPost {
             return true;
         }
 
-        private boolean readRule() {
+        private boolean beginRule() {
             if (draft.rules >= MOST_RULES) {
                 return refuse(FAULT_MUCH);
             }
-            advance();
+            goTo(token + 1);
             put(draft.ruleStarts, draft.rules, draft.codes);
             draft.rules++;
-            return readWholeExpr();
+            return true;
         }
 
-        private boolean readAsk() {
+        private boolean beginAsk() {
             if (draft.asks >= MOST_ASKS) {
                 return refuse(FAULT_MUCH);
             }
-            advance();
+            goTo(token + 1);
             put(draft.askStarts, draft.asks, draft.codes);
             draft.asks++;
-            return readWholeExpr();
-        }
-
-        private boolean readWholeExpr() {
-            if (!readExpr(0)) {
-                return false;
-            }
-            draft.addCode(CODE_END);
             return true;
         }
 
         /** The depth is how many EXPRS stand round this one. */
-        private boolean readExpr(int depth) {
-            if (depth >= MOST_EXPRS) {
-                boolean can = kind == KIND_NUMBER || kind == KIND_WORD || isSign('(');
-                return refuse(can ? FAULT_MUCH : FAULT_PLACE);
-            }
-            return readLevel(LEVEL_OR, depth);
-        }
-
         private boolean readLevel(int level, int depth) {
             if (level >= LEVEL_PART) {
                 return readPart(depth);
@@ -753,12 +919,9 @@ public final class TearsPost {
             if (!readLevel(level + 1, depth)) {
                 return false;
             }
-            for (int i = 0; i < MOST_BYTES; i++) {
-                int joining = joiningCode(level);
-                if (joining == 0) {
-                    break;
-                }
-                advance();
+            for (int i = 0; i < MOST_BYTES && joins(level); i++) {
+                int joining = kind;
+                goTo(token + 1);
                 if (!readLevel(level + 1, depth)) {
                     return false;
                 }
@@ -769,18 +932,19 @@ public final class TearsPost {
 
         private boolean readTest(int depth) {
             int nots = 0;
-            for (; nots < MOST_NOTS && isWord("not"); nots++) {
-                advance();
+            while (nots < MOST_NOTS && kind == CODE_NOT) {
+                nots++;
+                goTo(token + 1);
             }
-            if (nots == MOST_NOTS && isWord("not")) {
+            if (kind == CODE_NOT) {
                 return refuse(FAULT_MUCH);
             }
             if (!readLevel(LEVEL_SUM, depth)) {
                 return false;
             }
-            int joining = joiningCode(LEVEL_TEST);
-            if (joining != 0) {
-                advance();
+            if (joins(LEVEL_TEST)) {
+                int joining = kind;
+                goTo(token + 1);
                 if (!readLevel(LEVEL_SUM, depth)) {
                     return false;
                 }
@@ -793,180 +957,90 @@ public final class TearsPost {
         }
 
         private boolean readPart(int depth) {
-            if (kind == KIND_NUMBER) {
+            if (kind == TOKEN_NUMBER) {
                 if (!takeNumber(0, MOST_NUMBER)) {
                     return false;
                 }
                 draft.addCode(taken);
                 return true;
             }
-            if (kind == KIND_WORD) {
-                int value = valueOfWord();
-                if (value == NONE) {
-                    return refuse(FAULT_UNKNOWN);
-                }
-                draft.addCode(-1 - value);
-                advance();
+            if (kind <= CODE_VALUE && kind > CODE_NOT) {
+                draft.addCode(kind);
+                goTo(token + 1);
                 return true;
             }
-            return takeSign('(') && readExpr(depth + 1) && takeSign(')');
+            if (isWord()) {
+                return refuse(FAULT_UNKNOWN);
+            }
+            if (!take(TOKEN_OPEN)) {
+                return false;
+            }
+            if (depth + 1 >= MOST_EXPRS) {
+                boolean can = kind == TOKEN_NUMBER || kind == TOKEN_OPEN || isWord();
+                return refuse(can ? FAULT_MUCH : FAULT_PLACE);
+            }
+            return readLevel(LEVEL_OR, depth + 1) && take(TOKEN_CLOSE);
         }
 
-        /** The code of the TOKEN, if it joins two of the next level; 0, if it does not. */
-        private int joiningCode(int level) {
+        /** Whether the TOKEN joins two of the next level. */
+        private boolean joins(int level) {
             switch (level) {
                 case LEVEL_OR:
-                    return isWord("or") ? CODE_OR : 0;
+                    return kind == CODE_OR;
                 case LEVEL_AND:
-                    return isWord("and") ? CODE_AND : 0;
+                    return kind == CODE_AND;
                 case LEVEL_TEST:
-                    return isSign('<') ? CODE_LESS : isSign('=') ? CODE_EQUAL : 0;
+                    return kind == CODE_LESS || kind == CODE_EQUAL;
                 case LEVEL_SUM:
-                    return isSign('+') ? CODE_PLUS : isSign('-') ? CODE_MINUS : 0;
+                    return kind == CODE_PLUS || kind == CODE_MINUS;
                 default:
-                    return isSign('*') ? CODE_TIMES : isSign('/') ? CODE_BY : 0;
+                    return kind == CODE_TIMES || kind == CODE_BY;
             }
         }
 
-        private int valueOfWord() {
-            if (isWord("house")) {
-                return VALUE_HOUSE;
-            }
-            if (isWord("person")) {
-                return VALUE_PERSON;
-            }
-            if (isWord("grief")) {
-                return VALUE_GRIEF;
-            }
-            if (isWord("hired")) {
-                return VALUE_HIRED;
-            }
-            if (isWord("day")) {
-                return VALUE_DAY;
-            }
-            if (isWord("hour")) {
-                return VALUE_HOUR;
-            }
-            return isWord("before") ? VALUE_BEFORE : NONE;
+        private boolean isWord() {
+            return kind <= CODE_VALUE && kind >= CODE_AND || kind >= TOKEN_HOUSES;
         }
 
-        private boolean takeSign(char sign) {
-            if (!isSign(sign)) {
+        private boolean take(int due) {
+            if (kind != due) {
                 return refuse(FAULT_PLACE);
             }
-            advance();
+            goTo(token + 1);
             return true;
         }
 
         private boolean takeNumber(int least, int most) {
-            if (kind != KIND_NUMBER) {
+            if (kind != TOKEN_NUMBER) {
                 return refuse(FAULT_PLACE);
             }
-            if (end - start > MOST_DIGITS || number < least || number > most) {
+            if (number < least || number > most) {
                 return refuse(FAULT_MUCH);
             }
             taken = number;
-            advance();
+            goTo(token + 1);
             return true;
         }
 
         /** A HOUSE that there is, and that is not the other one (NONE: any). */
         private boolean takeHouse(int other) {
-            if (kind == KIND_NUMBER && end - start <= MOST_DIGITS) {
-                if (number >= draft.houses) {
-                    return refuse(FAULT_UNKNOWN);
-                }
-                if (number == other) {
-                    return refuse(FAULT_SAME);
-                }
+            if (kind != TOKEN_NUMBER) {
+                return refuse(FAULT_PLACE);
             }
-            return takeNumber(0, MOST_NUMBER);
+            if (number >= draft.houses) {
+                return refuse(number > MOST_NUMBER ? FAULT_MUCH : FAULT_UNKNOWN);
+            }
+            if (number == other) {
+                return refuse(FAULT_SAME);
+            }
+            taken = number;
+            goTo(token + 1);
+            return true;
         }
 
         private boolean refuse(int why) {
             fault = why;
             return false;
-        }
-
-        private boolean isWord(String word) {
-            if (kind != KIND_WORD || end - start != word.length()) {
-                return false;
-            }
-            for (int i = 0; i < word.length(); i++) {
-                if (at(tape, start + i) != word.charAt(i)) {
-                    return false;
-                }
-            }
-            return true;
-        }
-
-        private boolean isSign(char sign) {
-            return kind == KIND_SIGN && at(tape, start) == sign;
-        }
-
-        /** The next TOKEN: from where the latest one ended. */
-        private void advance() {
-            start = end;
-            while (start < size && isBlank(at(tape, start))) {
-                start++;
-            }
-            end = start;
-            if (start >= size) {
-                kind = KIND_END;
-                return;
-            }
-            kind = kindOf(at(tape, start));
-            number = 0;
-            end++;
-            if (kind == KIND_WORD) {
-                passWord();
-            } else if (kind == KIND_NUMBER) {
-                passNumber();
-            }
-        }
-
-        private void passWord() {
-            while (end < size && kindOf(at(tape, end)) == KIND_WORD) {
-                end++;
-            }
-        }
-
-        /** What stands behind the fourth digit is left out: such a NUMBER is refused unread. */
-        private void passNumber() {
-            number = at(tape, start) - '0';
-            while (end < size && kindOf(at(tape, end)) == KIND_NUMBER) {
-                if (end - start < MOST_DIGITS) {
-                    number = 10 * number + at(tape, end) - '0';
-                }
-                end++;
-            }
-        }
-
-        private static boolean isBlank(int sign) {
-            return sign == ' ' || sign == '\n';
-        }
-
-        private static int kindOf(int sign) {
-            if (sign >= 'a' && sign <= 'z') {
-                return KIND_WORD;
-            }
-            if (sign >= '0' && sign <= '9') {
-                return KIND_NUMBER;
-            }
-            switch (sign) {
-                case ';':
-                case '(':
-                case ')':
-                case '+':
-                case '-':
-                case '*':
-                case '/':
-                case '<':
-                case '=':
-                    return KIND_SIGN;
-                default:
-                    return KIND_NO_TOKEN;
-            }
         }
     }
 
