@@ -993,8 +993,10 @@ public final class TearsPost {
                     return kind == CODE_LESS || kind == CODE_EQUAL;
                 case LEVEL_SUM:
                     return kind == CODE_PLUS || kind == CODE_MINUS;
-                default:
+                case LEVEL_PRODUCT:
                     return kind == CODE_TIMES || kind == CODE_BY;
+                default:
+                    return false;
             }
         }
 

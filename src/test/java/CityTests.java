@@ -65,7 +65,7 @@ public final class CityTests {
             "person 0 chance 0000;", "person 0 hired;", "person 0 chance 7 hired;", "houses 2;walk 1 0 1;",
             "houses 2;walk 1 0 1;walk 0 1 99;", "rule 1;", "rule 9999;", "rule 0000;", "ask(1);",
             "rule house+person-grief*hired/day<hour+before;",
-            "rule not not not not not not 1;", "rule (((((1)))));", "rule (((((not not not not not not 1)))));",
+            "rule not not not not not not 1;", "rule (((((1)))));", "ask (((((1)))));", "rule (((((not not not not not not 1)))));",
             "rule not(not not not not not not 1);", "rule (1<2)<3;", "rule (1=2)=3;", "rule 1<2 and 2<3 or 3=4;",
             "rule 1*(2)/3+(4-5);", "rule not 1<2;", "rule not house;ask not person;",
             "person 0;".repeat(16), "rule 1;".repeat(4), "ask 1;".repeat(6),
@@ -146,6 +146,11 @@ public final class CityTests {
         faultAt("houses 3;walk 0 1;", 1, 17);
         faultAt("houses 3;walk 0 x 1;", 1, 16);
         faultAt("houses 3;walk;", 1, 13);
+        faultAt("person 0 x;", 1, 9);
+        faultAt("person 0 chanc 5;", 1, 9);
+        faultAt("xerson 0;", 1, 0);
+        faultAt("persons 0;", 1, 0);
+        faultAt("tules 1;", 1, 0);
         faultAt("chance 5;", 1, 0);
         faultAt("hired;", 1, 0);
         faultAt("not;", 1, 0);
@@ -157,6 +162,12 @@ public final class CityTests {
         faultAt("rule ", 1, 5);
         faultAt("rule x;", 3, 5);
         faultAt("rule houses;", 3, 5);
+        faultAt("rule z;", 3, 5);
+        faultAt("rule az;", 3, 5);
+        faultAt("rule {;", 1, 5);
+        faultAt("rule `;", 1, 5);
+        faultAt("rule 1:;", 1, 6);
+        faultAt("rule 1,;", 1, 6);
         faultAt("rule rule;", 3, 5);
         faultAt("rule and 1;", 3, 5);
         faultAt("rule or;", 3, 5);
@@ -205,6 +216,7 @@ public final class CityTests {
         faultAt("rule not not not not not not not not not 1;", 2, 29);
         faultAt("rule 1 and not not not not not not not", 2, 35);
         faultAt("rule ((((((1))))));", 2, 11);
+        faultAt("ask ((((((1))))));", 2, 10);
         faultAt("rule ((((((house))))));", 2, 11);
         faultAt("rule ((((((x))))));", 2, 11);
         faultAt("rule ((((((not 1))))));", 2, 11);
@@ -283,6 +295,15 @@ public final class CityTests {
         Check.same("the empty city", 0, post.city(0));
         Check.same("HOUSES of the empty city", 1, post.count(0));
         Check.same("PEOPLE of the empty city", 0, post.count(1));
+        for (int i = 0; i < 4; i++) {
+            Check.tell(post, "person 0;rule grief;rule 1;ask hour=5;");
+            Check.same("RULES told again", 2, post.count(2));
+            Check.same("ASKS told again", 1, post.count(3));
+            post.weep(0, 5, i & 1);
+            Check.same("a rule told again", i & 1, post.tears(0, 5));
+            Check.same("an ask told again", i & 1, post.holds(0, 0) ? 1 : 0);
+            Check.tell(post, "person 0;rule 0;rule 0;rule 0;ask 0;ask 0;ask 0;ask 0;ask 0;ask 0;walk");
+        }
         wrongCities();
     }
 
