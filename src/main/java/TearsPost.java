@@ -21,6 +21,10 @@ public final class TearsPost {
     private static final int MOST_DAYS = 100;
     private static final int LAST_HOUR = 2399;
     private static final int MOST_GRIEF = 9;
+    private static final int LAST_ROUND_DAY = 130;
+    private static final int MOST_BEHIND_DAYS = 100;
+    private static final int MOST_DRY_DAYS = 99;
+    private static final int THOUSAND = 1000;
     private static final int MILLION = 1000000;
     private static final int SURE_CHANCE = 1000;
 
@@ -252,7 +256,7 @@ public final class TearsPost {
     }
 
     public int round(int day) throws NoSuchElementException {
-        if (day < 0 || day > 130) {
+        if (day < 0 || day > LAST_ROUND_DAY) {
             throw new NoSuchElementException("no such day");
         }
         int reached = 0;
@@ -344,7 +348,7 @@ public final class TearsPost {
         for (int other = 0; other < city.houses; other++) {
             together += records.hoursCalled(other, person, from, to);
         }
-        return together == 0 ? 0 : hours * 1000 / together;
+        return together == 0 ? 0 : hours * THOUSAND / together;
     }
 
     public int last(int person) throws NoSuchElementException {
@@ -363,7 +367,7 @@ public final class TearsPost {
         if (person != NONE) {
             needPerson(person);
         }
-        if (days < 0 || days > 100) {
+        if (days < 0 || days > MOST_BEHIND_DAYS) {
             throw new IllegalArgumentException("days are 0 to 100");
         }
         names.callAt(records, records.nowHour());
@@ -380,7 +384,7 @@ public final class TearsPost {
     }
 
     public int dry(int days) throws IllegalArgumentException {
-        if (days < 1 || days > 99) {
+        if (days < 1 || days > MOST_DRY_DAYS) {
             throw new IllegalArgumentException("days are 1 to 99");
         }
         return (1 << city.houses) - 1 & ~records.weptBehind(records.nowHour() - DAY_HOURS * days);
@@ -616,12 +620,13 @@ public final class TearsPost {
         private void split(int bytes) {
             many = 0;
             taped = 0;
-            int end = 0;
-            for (int start = 0; start < bytes; start = end) {
-                end = endOf(start, bytes);
+            int start = 0;
+            for (int rows = 0; rows < bytes && start < bytes; rows++) {
+                int end = endOf(start, bytes);
                 if (!isBlank(at(tape, start))) {
                     add(kindOf(start, end), start, numberOf(start, end));
                 }
+                start = end;
             }
             add(TOKEN_END, bytes, 0);
         }
@@ -1312,7 +1317,7 @@ public final class TearsPost {
         private final int[] answers = new int[MOST_ASKS];
         private final int[] fewest = new int[1 << MOST_HOUSES];
 
-        /** Sets of HOUSES come behind all that are parts of them, so parts are known by then. */
+        /** Sets of HOUSES, as bits, come behind all that are parts of them: parts are known by then. */
         private int fewestOf(int houses, int asks) {
             for (int some = 0; some <= houses; some++) {
                 if ((some & houses) == some) {
