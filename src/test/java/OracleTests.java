@@ -7,7 +7,8 @@ import java.util.Random;
 /** Long runs of calls, the same every time, on the program and on the oracle side by side. */
 public final class OracleTests {
     private static final int RUNS = 600;
-    private static final int CALLS = 480;
+    /** An object is used for at most 512 calls; a text takes 38 of them, at most. */
+    private static final int CALLS = 470;
     private static final int[] FAR = {-1, Integer.MIN_VALUE, Integer.MAX_VALUE, -2, 1 << 30, -24, 65536};
     private static final String[] TOKENS = {"houses", "person", "walk", "rule", "ask", "chance", "hired", "not",
         "and", "or", "house", "grief", "day", "hour", "before", ";", "(", ")", "+", "-", "*", "/", "<", "=", "0",
@@ -21,6 +22,7 @@ public final class OracleTests {
     private int houses = 1;
     private int people = 0;
     private int hour = 0;
+    private int calls = 0;
 
     private OracleTests(int seed) {
         random = new Random(seed);
@@ -48,9 +50,9 @@ public final class OracleTests {
     private void run() {
         boolean wild = seldom(3);
         tellCity(wild);
-        for (int call = 0; call < CALLS; call++) {
+        while (calls < CALLS) {
             if (seldom(wild ? 8 : 150)) {
-                call += tellCity(wild || seldom(2));
+                tellCity(wild || seldom(2));
             } else {
                 int kind = below(40);
                 if (kind == 29 && !seldom(6)) {
@@ -108,15 +110,15 @@ public final class OracleTests {
         }
     }
 
-    private int tellCity(boolean wild) {
+    private void tellCity(boolean wild) {
         String text = randomText();
         for (int i = below(3); wild && i > 0; i--) {
             text = spoil(text);
         }
-        return tell(text.substring(0, Math.min(700, text.length())));
+        tell(text.substring(0, Math.min(700, text.length())));
     }
 
-    private int tell(String text) {
+    private void tell(String text) {
         int feeds = (text.length() + 19) / 20;
         StringBuilder padded = new StringBuilder(text);
         while (padded.length() % 20 != 0) {
@@ -134,7 +136,6 @@ public final class OracleTests {
         houses = oracle.count(0);
         people = oracle.count(1);
         hour = oracle.count(8);
-        return feeds + 2;
     }
 
     private String spoil(String text) {
@@ -290,6 +291,7 @@ public final class OracleTests {
 
     private void same(int kind, int... with) {
         told.add(kind + Arrays.toString(with));
+        calls++;
         String due = answer(() -> oracleAnswer(kind, with));
         String got = answer(() -> programAnswer(kind, with));
         hour = oracle.count(8);
