@@ -20,6 +20,7 @@ public final class OddsBoundsTests {
         lastTakesPeople();
         lastOfOneAlone();
         lastIsCutDownEachTime();
+        lastIsByNumber();
         lastIsOfThoseOfHisHouse();
         lastOfSixteen();
         nobodyTakesHouses();
@@ -321,6 +322,31 @@ public final class OddsBoundsTests {
         Check.same("LAST of one of 1", 0 + 1 / 2 + 666 / 3 + 332 / 4, turned.last(0));
     }
 
+    private static String crowd(int... chances) {
+        StringBuilder text = new StringBuilder();
+        for (int chance : chances) {
+            text.append("person 0 chance ").append(chance).append(';');
+        }
+        return text.toString();
+    }
+
+    private static void lastIsByNumber() {
+        Check.promise(23, "for each of the others, by number, each number becomes it by (1000 less CHANCE) "
+                + "and the one below it by CHANCE, together, by 1000, cut down");
+        int due = 910123 + 88757 / 2 + 1115 / 3 + 3 / 4;
+        Check.same("LAST beside 7, 7, 77", due, Check.city(crowd(1000, 7, 7, 77)).last(0));
+        Check.same("LAST beside 77, 7, 7", due, Check.city(crowd(77, 7, 7, 1000)).last(3));
+        int up = 8587 + 108693 / 2 + 406603 / 3 + 419358 / 4 + 56754 / 5;
+        int down = 8587 + 108693 / 2 + 406602 / 3 + 419358 / 4 + 56755 / 5;
+        Check.same("LAST beside 137, 582, 867, 821", up, Check.city(crowd(1000, 137, 582, 867, 821)).last(0));
+        Check.same("LAST between 137, 582 and 867, 821", up, Check.city(crowd(137, 582, 1000, 867, 821)).last(2));
+        Check.same("LAST beside 821, 867, 582, 137", down, Check.city(crowd(1000, 821, 867, 582, 137)).last(0));
+        TearsPost again = Check.city(crowd(1000, 1000, 1000, 1000));
+        Check.same("LAST of four", 250000, again.last(0));
+        Check.tell(again, crowd(1000, 7, 7, 77));
+        Check.same("LAST behind another's", due, again.last(0));
+    }
+
     private static void lastIsOfThoseOfHisHouse() {
         Check.promise(23, "on a day each PERSON of a HOUSE comes out in tears once by his CHANCE");
         TearsPost post = Check.city("houses 2;person 0 chance 500;person 0 chance 1000;person 1 chance 1000;");
@@ -361,6 +387,8 @@ public final class OddsBoundsTests {
         for (int house = 0; house < 10; house++) {
             Check.same("NOBODY of HOUSE " + house, due[house], post.nobody(house));
         }
+        Check.same("NOBODY by number", 18997, Check.city(crowd(741, 880, 303, 123)).nobody(0));
+        Check.same("NOBODY by number, the other way", 18998, Check.city(crowd(123, 303, 880, 741)).nobody(0));
         post.move(2, 5);
         Check.same("NOBODY of two of 999", 1, post.nobody(2));
         post.move(3, 5);

@@ -375,6 +375,10 @@ public final class PostBoundsTests {
         Check.noSuch("its HOUSES", () -> post.rounded(0));
         post.letter(1, 0);
         Check.same("with one that comes BACK", 0, post.round(0));
+        TearsPost none = Check.city("houses 2;person 1;");
+        none.weep(0, 0, 0);
+        Check.same("without LETTERS, though there is a NAME", 0, none.round(0));
+        Check.noSuch("its HOUSES", () -> none.rounded(0));
         post.weep(1, 0, 0);
         Check.same("to both", 198, post.round(0));
         Check.same("its HOUSE", 1, post.rounded(0));
