@@ -35,6 +35,7 @@ public final class TextBoundsTests {
         dividesCutDownToZero();
         testsAreOneOrZero();
         whatIsNotZeroHolds();
+        anyNumberOfTimes();
         deepestExpr();
         Check.finish("TextBoundsTests");
     }
@@ -587,6 +588,20 @@ public final class TextBoundsTests {
         Check.holds("1-1", 0);
         Check.holds("(0-1) and (0-2)", 1);
         Check.holds("not (0-1)", 0);
+    }
+
+    private static void anyNumberOfTimes() {
+        Check.promise(3, "* any number of times");
+        String[] signs = {"+0", "-0", "*1", "/1", " or 0", " and 1"};
+        for (String sign : signs) {
+            int most = (700 - "ask 1;".length()) / sign.length();
+            for (int times : new int[] {0, 1, 2, most}) {
+                TearsPost post = Check.city("ask 1" + sign.repeat(times) + ";");
+                Check.same(times + " times " + sign, 1, post.holds(0, 0) ? 1 : 0);
+            }
+        }
+        Check.fine("houses 2;" + "walk 0 1 5;".repeat(62));
+        Check.fault("houses 2;" + "walk 0 1 5;".repeat(62) + "walk 0 1", 1, 699);
     }
 
     /** Within five others, each of which waits for its right side at every level. */
